@@ -484,15 +484,15 @@ public final class SeatProofs {
         }
 
         /**
-         * The least liquid in a space that clashes there: with any other one (with = 0), or with
+         * The least liquid in a space that clashes there: with any other one (foe = 0), or with
          * the liquid given. NONE when there is none.
          */
-        int leastClashing(int place, int with) {
+        int leastClashing(int place, int foe) {
             for (int liquid = 1; liquid < LIQUIDS; liquid++) {
-                if (has(floods[liquid], place) && liquid != with) {
-                    boolean clash = with == 0
+                if (has(floods[liquid], place) && liquid != foe) {
+                    boolean clash = foe == 0
                             ? clashes(liquid, only(place))
-                            : !plant.areFriends(liquid, with);
+                            : !plant.areFriends(liquid, foe);
                     if (clash) {
                         return liquid;
                     }
