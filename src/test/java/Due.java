@@ -24,6 +24,14 @@ final class Due {
         same(call, got ? 1 : 0, 0);
     }
 
+    void alike(String what, String got, String want) {
+        asked++;
+        if (!got.equals(want)) {
+            wrong++;
+            System.out.println(part + ": " + what + " told: " + got + "\n  due is: " + want);
+        }
+    }
+
     boolean anyWrong() {
         return wrong > 0;
     }
