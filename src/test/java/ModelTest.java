@@ -1,7 +1,8 @@
 /** Long runs of calls, always the same ones, on SeatProofs and on the plain model side by side. */
 public final class ModelTest {
-    private static final int RUNS = 1500;
-    private static final int CALLS = 140;
+    private static final int RUNS = 6000;
+    /** The document promises nothing about an object after so many calls. */
+    private static final int MOST_CALLS = 512;
     private static final long[] HEIGHTS = {0, 0, 0, 1, -1, 5, Long.MAX_VALUE, Long.MIN_VALUE};
 
     private final Due due;
@@ -13,6 +14,7 @@ public final class ModelTest {
     private final int spaces;
     private final int valves;
     private final boolean flat;
+    private int calls = 0;
 
     private ModelTest(Due due, int run) {
         this.due = due;
@@ -29,13 +31,20 @@ public final class ModelTest {
         return (int) ((seed >>> 33) % bound);
     }
 
+    private void same(String call, long got, long want) {
+        calls++;
+        if (calls <= MOST_CALLS) {
+            due.same(call, got, want);
+        }
+    }
+
     private boolean oneIn(int n) {
         return below(n) == 0;
     }
 
     private void addSpace() {
         int liquid = oneIn(40) ? (oneIn(2) ? -1 : 16) : oneIn(2) ? 0 : 1 + below(liquids);
-        due.same("space(" + liquid + ")", x.space(liquid), m.space(liquid));
+        same("space(" + liquid + ")", x.space(liquid), m.space(liquid));
     }
 
     private void addValve() {
@@ -43,20 +52,20 @@ public final class ModelTest {
         int b = below(spaces + 1) - (oneIn(20) ? 1 : 0);
         int seats = oneIn(30) ? 3 * below(2) : 1 + below(2);
         boolean open = oneIn(5);
-        due.same("valve(" + a + ", " + b + ", " + seats + ", " + open + ")",
+        same("valve(" + a + ", " + b + ", " + seats + ", " + open + ")",
                 x.valve(a, b, seats, open), m.valve(a, b, seats, open));
     }
 
     private void setLevel() {
         int s = below(spaces + 2) - 1;
         long h = HEIGHTS[below(HEIGHTS.length)];
-        due.same("level(" + s + ", " + h + ")", x.level(s, h) ? 1 : 0, m.level(s, h) ? 1 : 0);
+        same("level(" + s + ", " + h + ")", x.level(s, h) ? 1 : 0, m.level(s, h) ? 1 : 0);
     }
 
     private void letMeet() {
         int p = below(liquids + 2);
         int q = oneIn(20) ? 16 : below(liquids + 2);
-        due.same("may(" + p + ", " + q + ")", x.may(p, q) ? 1 : 0, m.may(p, q) ? 1 : 0);
+        same("may(" + p + ", " + q + ")", x.may(p, q) ? 1 : 0, m.may(p, q) ? 1 : 0);
     }
 
     private void turn() {
@@ -68,7 +77,7 @@ public final class ModelTest {
         } catch (IndexOutOfBoundsException e) {
             got = 2;
         }
-        due.same("set(" + v + ", " + open + ")", got, m.lacksValve(v) ? 2 : m.set(v, open) ? 1 : 0);
+        same("set(" + v + ", " + open + ")", got, m.lacksValve(v) ? 2 : m.set(v, open) ? 1 : 0);
     }
 
     private void doubt() {
@@ -80,26 +89,32 @@ public final class ModelTest {
         } catch (IndexOutOfBoundsException e) {
             got = 2;
         }
-        due.same("unsure(" + v + ", " + on + ")", got, m.lacksValve(v) ? 2 : m.unsure(v, on) ? 1 : 0);
+        same("unsure(" + v + ", " + on + ")", got, m.lacksValve(v) ? 2 : m.unsure(v, on) ? 1 : 0);
     }
 
     private void dropRow() {
         int k = below(m.rows() + 2) - 1;
-        due.same("drop(" + k + ")", x.drop(k) ? 1 : 0, m.drop(k) ? 1 : 0);
+        same("drop(" + k + ")", x.drop(k) ? 1 : 0, m.drop(k) ? 1 : 0);
     }
 
     private void compareSmall() {
-        due.same("rows()", x.rows(), m.rows());
-        due.same("tested()", x.tested(), m.tested());
-        for (int what = -1; what <= 4; what++) {
-            due.same("culprit(" + what + ")", x.culprit(what), m.culprit(what));
-        }
+        same("rows()", x.rows(), m.rows());
+        same("tested()", x.tested(), m.tested());
+        int what = below(6) - 1;
+        same("culprit(" + what + ")", x.culprit(what), m.culprit(what));
     }
 
     private void compareRow(int k) {
         int last = 5 + Math.max(0, m.row(k, 3));
         for (int i = -1; i <= last; i++) {
-            due.same("row(" + k + ", " + i + ")", x.row(k, i), m.row(k, i));
+            same("row(" + k + ", " + i + ")", x.row(k, i), m.row(k, i));
+        }
+    }
+
+    private void proveAgain() {
+        same("safe()", x.safe(), m.safe());
+        for (int what = 0; what < 4; what++) {
+            same("culprit(" + what + ")", x.culprit(what), m.culprit(what));
         }
     }
 
@@ -108,11 +123,11 @@ public final class ModelTest {
         if (kind < 30) {
             turn();
         } else if (kind < 50) {
-            due.same("safe()", x.safe(), m.safe());
+            proveAgain();
         } else if (kind < 70) {
             dropRow();
         } else if (kind < 85) {
-            due.same("check()", x.check(), m.check());
+            same("check()", x.check(), m.check());
         } else if (kind < 89) {
             doubt();
         } else if (kind < 92) {
@@ -125,6 +140,7 @@ public final class ModelTest {
             addSpace();
         } else if (oneIn(8)) {
             x.clear();
+            calls++;
             m = new PlainModel();
             build();
         }
@@ -148,17 +164,14 @@ public final class ModelTest {
     private void go() {
         due.part("run " + run);
         build();
-        int calls = run % 50 == 0 ? CALLS / 7 : CALLS;
-        for (int n = 0; n < calls && !due.anyWrong(); n++) {
-            due.part("run " + run + ", step " + n);
+        while (calls < MOST_CALLS && !due.anyWrong()) {
+            due.part("run " + run + ", call " + calls);
             step();
             compareSmall();
-            compareRow(below(m.rows() + 2) - 1);
+            if (oneIn(2)) {
+                compareRow(below(m.rows() + 2) - 1);
+            }
         }
-        for (int k = 0; k < m.rows() && !due.anyWrong(); k++) {
-            compareRow(k);
-        }
-        due.same("check()", x.check(), m.check());
     }
 
     public static void main(String[] args) {
