@@ -60,67 +60,6 @@ public final class BoundariesTest {
         t.due.end();
     }
 
-    private static SeatProofs spaces(int... liquids) {
-        SeatProofs x = new SeatProofs();
-        for (int liquid : liquids) {
-            x.space(liquid);
-        }
-        return x;
-    }
-
-    /** So many spaces without a liquid. */
-    private static SeatProofs dry(int number) {
-        return spaces(new int[number]);
-    }
-
-    /** Liquids 1 and 2 with one shut valve between them. */
-    private static SeatProofs pair(int seats) {
-        SeatProofs x = spaces(1, 2);
-        x.valve(0, 1, seats, false);
-        return x;
-    }
-
-    private static boolean setThrown(SeatProofs x, int v) {
-        try {
-            x.set(v, true);
-            return false;
-        } catch (IndexOutOfBoundsException e) {
-            return e.getClass() == IndexOutOfBoundsException.class;
-        }
-    }
-
-    private static boolean unsureThrown(SeatProofs x, int v) {
-        try {
-            x.unsure(v, true);
-            return false;
-        } catch (IndexOutOfBoundsException e) {
-            return e.getClass() == IndexOutOfBoundsException.class;
-        }
-    }
-
-    private void rowIs(SeatProofs x, int k, int... want) {
-        for (int i = 0; i < want.length; i++) {
-            due.same("row(" + k + ", " + i + ")", x.row(k, i), want[i]);
-        }
-        due.same("row(" + k + ", " + want.length + ")", x.row(k, want.length), NONE);
-    }
-
-    private void culpritIs(SeatProofs x, int... want) {
-        for (int what = 0; what < 4; what++) {
-            due.same("culprit(" + what + ")", x.culprit(what), want[what]);
-        }
-    }
-
-    private void noCulprit(SeatProofs x) {
-        culpritIs(x, NONE, NONE, NONE, NONE);
-    }
-
-    private void noProof(SeatProofs x) {
-        due.same("rows()", x.rows(), 0);
-        due.same("row(0, 0)", x.row(0, 0), NONE);
-        due.no("drop(0)", x.drop(0));
-    }
-
     private void atMost64Spaces() {
         due.part("terms: spaces have numbers from 0 on, at most 64");
         SeatProofs x = new SeatProofs();
@@ -134,7 +73,7 @@ public final class BoundariesTest {
 
     private void space63IsAsOthers() {
         due.part("terms: the last of 64 spaces");
-        SeatProofs x = dry(63);
+        SeatProofs x = Plants.dry(63);
         due.no("level(63, 1) of 63", x.level(63, 1));
         due.same("valve(63, 0, 1, true) of 63", x.valve(63, 0, 1, true), NONE);
         due.same("space(9)", x.space(9), 63);
@@ -142,10 +81,10 @@ public final class BoundariesTest {
         due.same("valve(63, 0, 1, true)", x.valve(63, 0, 1, true), 0);
         due.same("valve(62, 63, 1, false)", x.valve(62, 63, 1, false), 1);
         due.same("safe()", x.safe(), 1);
-        rowIs(x, 0, 0, 9, 2, 1, 1);
-        rowIs(x, 1, 1, 9, 1, 2, 0, 1);
-        rowIs(x, 2, 2, 9, 3, 0);
-        x = dry(61);
+        due.rowIs(x, 0, 0, 9, 2, 1, 1);
+        due.rowIs(x, 1, 1, 9, 1, 2, 0, 1);
+        due.rowIs(x, 2, 2, 9, 3, 0);
+        x = Plants.dry(61);
         x.space(4);
         x.space(5);
         x.space(0);
@@ -153,7 +92,7 @@ public final class BoundariesTest {
         x.valve(61, 63, 1, true);
         x.valve(62, 63, 1, true);
         due.same("safe()", x.safe(), 0);
-        culpritIs(x, 0, 63, 4, 5);
+        due.culpritIs(x, 0, 63, 4, 5);
     }
 
     private void liquids1To15OrNone() {
@@ -166,7 +105,7 @@ public final class BoundariesTest {
             due.same("row(0, 1)", x.row(0, 1), liquid == 0 ? NONE : liquid);
             due.same("check()", x.check(), 0);
         }
-        SeatProofs x = spaces(0, 15);
+        SeatProofs x = Plants.of(0, 15);
         x.valve(0, 1, 1, true);
         due.same("safe(): none meets nothing", x.safe(), 1);
     }
@@ -176,7 +115,7 @@ public final class BoundariesTest {
         long[] heights = {-1, 0, 1};
         int[] floods = {1, 2, 2};
         for (int n = 0; n < 3; n++) {
-            SeatProofs x = spaces(1, 0);
+            SeatProofs x = Plants.of(1, 0);
             x.valve(0, 1, 1, true);
             x.level(0, heights[n]);
             x.safe();
@@ -186,7 +125,7 @@ public final class BoundariesTest {
 
     private void atMost64Valves() {
         due.part("terms: valves have numbers from 0 on, at most 64");
-        SeatProofs x = dry(2);
+        SeatProofs x = Plants.dry(2);
         for (int n = 0; n < 64; n++) {
             due.same("valve", x.valve(n % 2, 1 - n % 2, 1 + n % 2, n % 3 == 0), n);
         }
@@ -198,7 +137,7 @@ public final class BoundariesTest {
 
     /** 63 shut valves with two seats between liquids 1 and 2, and one more. */
     private static SeatProofs manyBetween(int seatsOfTheLast) {
-        SeatProofs x = spaces(1, 2);
+        SeatProofs x = Plants.of(1, 2);
         for (int v = 0; v < 63; v++) {
             x.valve(0, 1, 2, false);
         }
@@ -216,7 +155,7 @@ public final class BoundariesTest {
         due.no("set(63, true)", x.set(63, true));
         due.same("tested()", x.tested(), 130);
         due.same("safe()", x.safe(), 0);
-        culpritIs(x, 0, 0, 1, 2);
+        due.culpritIs(x, 0, 0, 1, 2);
         x.set(63, false);
         due.same("safe()", x.safe(), 1);
     }
@@ -225,7 +164,7 @@ public final class BoundariesTest {
         due.part("terms: failures are told by numbers: 0 none, 1 + v that valve v fails");
         SeatProofs x = manyBetween(1);
         due.same("safe()", x.safe(), 0);
-        culpritIs(x, 64, 0, 1, 2);
+        due.culpritIs(x, 64, 0, 1, 2);
         x.may(1, 2);
         due.same("safe()", x.safe(), 1);
         due.same("row(0, 0)", x.row(0, 0), 0);
@@ -233,15 +172,15 @@ public final class BoundariesTest {
         due.same("row(127, 2)", x.row(127, 2), 1);
         due.same("row(128, 2)", x.row(128, 2), 2);
         due.same("row(129, 2)", x.row(129, 2), 2);
-        x = spaces(1);
+        x = Plants.of(1);
         x.safe();
-        rowIs(x, 0, 0, 1, 1, 0);
+        due.rowIs(x, 0, 0, 1, 1, 0);
         due.same("rows() without valves: the failure 0 alone", x.rows(), 1);
     }
 
     /** What liquid 1 floods over one valve to an empty space, when none fails and when it does. */
     private void floodsAre(int seats, boolean open, boolean unsure, int whole, int failed) {
-        SeatProofs x = spaces(1, 0);
+        SeatProofs x = Plants.of(1, 0);
         x.valve(0, 1, seats, open);
         x.unsure(0, unsure);
         x.safe();
@@ -268,7 +207,7 @@ public final class BoundariesTest {
     /** Whether liquid 1 comes to another space over an open valve, whichever of its ends is which. */
     private void comes(long from, long to, boolean want) {
         for (int end = 0; end < 2; end++) {
-            SeatProofs x = spaces(1, 0);
+            SeatProofs x = Plants.of(1, 0);
             x.level(0, from);
             x.level(1, to);
             x.valve(end, 1 - end, 1, true);
@@ -301,16 +240,16 @@ public final class BoundariesTest {
 
     private void oneLiquidTwice() {
         due.part("terms: two different liquids meet");
-        SeatProofs x = spaces(8, 8);
+        SeatProofs x = Plants.of(8, 8);
         x.valve(0, 1, 1, true);
         due.same("safe() of one liquid", x.safe(), 1);
         due.same("rows()", x.rows(), 2);
-        rowIs(x, 1, 1, 8, 2, 0);
+        due.rowIs(x, 1, 1, 8, 2, 0);
     }
 
     private void cutNeedsOneEndInTheFlood() {
         due.part("terms: the cut has one end in the flood and the other one not in it");
-        SeatProofs x = spaces(1, 0, 0, 0, 1);
+        SeatProofs x = Plants.of(1, 0, 0, 0, 1);
         x.valve(0, 1, 1, true);
         x.valve(1, 0, 2, false);
         x.valve(2, 3, 2, false);
@@ -319,26 +258,26 @@ public final class BoundariesTest {
         x.valve(2, 4, 2, false);
         x.level(3, -1);
         due.same("safe()", x.safe(), 1);
-        rowIs(x, 0, 0, 1, 3, 2, 4, 5);
+        due.rowIs(x, 0, 0, 1, 3, 2, 4, 5);
         x.level(2, 1);
         x.safe();
-        rowIs(x, 0, 0, 1, 3, 0);
+        due.rowIs(x, 0, 0, 1, 3, 0);
         x.level(4, 1);
         x.safe();
-        rowIs(x, 0, 0, 1, 3, 1, 5);
+        due.rowIs(x, 0, 0, 1, 3, 1, 5);
     }
 
     private void newObject() {
         due.part("promise 1: no spaces, no valves; no liquids may meet; no proof");
         SeatProofs x = new SeatProofs();
-        noProof(x);
-        noCulprit(x);
+        due.noProof(x);
+        due.noCulprit(x);
         due.same("tested()", x.tested(), 0);
         due.same("check()", x.check(), 0);
         due.no("level(0, 0)", x.level(0, 0));
         due.same("valve(0, 1, 1, true)", x.valve(0, 1, 1, true), NONE);
-        due.yes("set(0, true) throws", setThrown(x, 0));
-        due.yes("unsure(0, true) throws", unsureThrown(x, 0));
+        due.yes("set(0, true) throws", Thrown.bySet(x, 0, true));
+        due.yes("unsure(0, true) throws", Thrown.byUnsure(x, 0, true));
         for (int p = 1; p < 16; p++) {
             for (int q = 1; q < p; q++) {
                 due.yes("may(" + p + ", " + q + ")", x.may(p, q));
@@ -349,22 +288,22 @@ public final class BoundariesTest {
     private void spaceEndsTheProof() {
         due.part("promise 2: the proof goes");
         for (int liquid = 0; liquid < 16; liquid++) {
-            SeatProofs x = spaces(3);
+            SeatProofs x = Plants.of(3);
             x.safe();
             due.same("rows()", x.rows(), 1);
             due.same("space(" + liquid + ")", x.space(liquid), 1);
-            noProof(x);
+            due.noProof(x);
         }
     }
 
     private void valveEndsTheProof() {
         due.part("promise 3: the proof goes");
         for (int n = 0; n < 4; n++) {
-            SeatProofs x = spaces(3, 0);
+            SeatProofs x = Plants.of(3, 0);
             x.safe();
             due.same("rows()", x.rows(), 1);
             due.same("valve", x.valve(0, 1, 1 + n / 2, n % 2 == 0), 0);
-            noProof(x);
+            due.noProof(x);
         }
     }
 
@@ -372,22 +311,22 @@ public final class BoundariesTest {
         due.part("promise 4: true, and the proof goes");
         long[] heights = {0, 1, -1, Long.MIN_VALUE, Long.MAX_VALUE};
         for (long h : heights) {
-            SeatProofs x = spaces(3, 0);
+            SeatProofs x = Plants.of(3, 0);
             x.safe();
             due.same("rows()", x.rows(), 1);
             due.yes("level(1, " + h + ")", x.level(1, h));
-            noProof(x);
+            due.noProof(x);
         }
     }
 
     private void mayEndsTheProof() {
         due.part("promise 5: true, and the proof goes");
         for (int other = 2; other < 16; other++) {
-            SeatProofs x = spaces(3, 0);
+            SeatProofs x = Plants.of(3, 0);
             x.safe();
             due.same("rows()", x.rows(), 1);
             due.yes("may(1, " + other + ")", x.may(1, other));
-            noProof(x);
+            due.noProof(x);
         }
     }
 
@@ -395,74 +334,74 @@ public final class BoundariesTest {
         due.part("promise 6: a proof from now on (none when no space has a liquid)");
         SeatProofs x = new SeatProofs();
         due.same("safe() of nothing", x.safe(), 1);
-        noProof(x);
-        x = dry(3);
+        due.noProof(x);
+        x = Plants.dry(3);
         due.same("safe() without valves", x.safe(), 1);
-        noProof(x);
+        due.noProof(x);
         x.valve(0, 1, 1, true);
         x.valve(1, 2, 1, false);
         due.same("safe() without liquids", x.safe(), 1);
-        noProof(x);
+        due.noProof(x);
         due.same("check()", x.check(), 0);
         due.no("set(1, true)", x.set(1, true));
         due.same("tested()", x.tested(), 0);
-        noCulprit(x);
+        due.noCulprit(x);
     }
 
     private void unsafeWithoutProof() {
         due.part("promise 6: 0 when it is not, without one");
-        SeatProofs x = pair(1);
+        SeatProofs x = Plants.chain(1);
         due.same("safe()", x.safe(), 0);
-        noProof(x);
+        due.noProof(x);
         // A proof that still stands, since rows were dropped, must go too.
-        x = pair(2);
+        x = Plants.chain(2);
         x.safe();
         x.drop(3);
         x.drop(1);
         due.yes("set(0, true)", x.set(0, true));
         due.same("rows()", x.rows(), 2);
         due.same("safe()", x.safe(), 0);
-        noProof(x);
+        due.noProof(x);
     }
 
     private void culpritBeforeSafe() {
         due.part("promise 7: NONE otherwise, before safe()");
-        SeatProofs x = pair(1);
-        noCulprit(x);
+        SeatProofs x = Plants.chain(1);
+        due.noCulprit(x);
         x.set(0, true);
         x.check();
-        noCulprit(x);
+        due.noCulprit(x);
     }
 
     private void culpritWhenSafe() {
         due.part("promise 7: NONE otherwise, when the last safe() answered 1");
-        SeatProofs x = pair(1);
+        SeatProofs x = Plants.chain(1);
         due.same("safe()", x.safe(), 0);
-        culpritIs(x, 1, 0, 1, 2);
+        due.culpritIs(x, 1, 0, 1, 2);
         x.may(1, 2);
         due.same("safe()", x.safe(), 1);
-        noCulprit(x);
-        x = pair(2);
+        due.noCulprit(x);
+        x = Plants.chain(2);
         due.same("safe()", x.safe(), 1);
         due.no("set(0, true)", x.set(0, true));
-        noCulprit(x);
+        due.noCulprit(x);
     }
 
     private void culpritOfAnotherWhat() {
         due.part("promise 7: NONE for another what");
-        SeatProofs x = pair(1);
+        SeatProofs x = Plants.chain(1);
         x.safe();
         int[] others = {-1, 4, 5, -4, 256, 65536, LEAST, GREATEST};
         for (int what : others) {
             due.same("culprit(" + what + ")", x.culprit(what), NONE);
         }
-        culpritIs(x, 1, 0, 1, 2);
+        due.culpritIs(x, 1, 0, 1, 2);
     }
 
     private void culpritPairOfSeveral() {
         due.part("promise 7: of several pairs that with the least less, then the least greater");
         // 2, 3, 14 and 15 are in space 0; 2 may meet 3 and 14.
-        SeatProofs x = spaces(0, 15, 14, 3, 2);
+        SeatProofs x = Plants.of(0, 15, 14, 3, 2);
         for (int s = 1; s < 5; s++) {
             x.level(s, s);
             x.valve(s, 0, 1, true);
@@ -470,19 +409,19 @@ public final class BoundariesTest {
         x.may(2, 3);
         x.may(14, 2);
         x.safe();
-        culpritIs(x, 0, 0, 2, 15);
+        due.culpritIs(x, 0, 0, 2, 15);
         x.may(15, 2);
         x.safe();
-        culpritIs(x, 0, 0, 3, 14);
+        due.culpritIs(x, 0, 0, 3, 14);
         x.may(3, 14);
         x.may(3, 15);
         x.safe();
-        culpritIs(x, 0, 0, 14, 15);
+        due.culpritIs(x, 0, 0, 14, 15);
     }
 
     private void rowsWithoutProof() {
         due.part("promise 8: 0 without one");
-        SeatProofs x = pair(2);
+        SeatProofs x = Plants.chain(2);
         due.same("rows() before safe()", x.rows(), 0);
         x.safe();
         due.same("rows()", x.rows(), 4);
@@ -498,7 +437,7 @@ public final class BoundariesTest {
 
     private void rowThatIsNotThere() {
         due.part("promise 9: NONE when there is no such row");
-        SeatProofs x = pair(2);
+        SeatProofs x = Plants.chain(2);
         int[] wrong = {-1, 4, 5, 64, 974, 975, 976, 65536, -65536, LEAST, GREATEST};
         for (int i = 0; i < 5; i++) {
             due.same("row(0, " + i + ") without a proof", x.row(0, i), NONE);
@@ -509,15 +448,15 @@ public final class BoundariesTest {
                 due.same("row(" + k + ", " + i + ")", x.row(k, i), NONE);
             }
         }
-        rowIs(x, 3, 1, 2, 1, 1, 0);
+        due.rowIs(x, 3, 1, 2, 1, 1, 0);
         x.drop(0);
         due.same("row(3, 0) after drop", x.row(3, 0), NONE);
-        rowIs(x, 2, 1, 2, 1, 1, 0);
+        due.rowIs(x, 2, 1, 2, 1, 1, 0);
     }
 
     private void rowPartThatIsNotThere() {
         due.part("promise 9: NONE when there is no such i");
-        SeatProofs x = pair(2);
+        SeatProofs x = Plants.chain(2);
         x.may(1, 2);
         x.safe();
         int[] wrong = {-1, 5, 6, 67, 68, -4, 256, 65536, LEAST, LEAST + 1, LEAST + 3, LEAST + 4, GREATEST};
@@ -544,20 +483,20 @@ public final class BoundariesTest {
 
     private void largestFlood() {
         due.part("promise 9: a flood of all 64 spaces");
-        SeatProofs x = dry(63);
+        SeatProofs x = Plants.dry(63);
         x.space(15);
         for (int s = 0; s < 63; s++) {
             x.valve(s, s + 1, 1, true);
         }
         x.valve(63, 0, 2, false);
         x.safe();
-        rowIs(x, 0, 0, 15, 64, 0);
-        rowIs(x, 1, 1, 15, 63, 2, 0, 63);
-        rowIs(x, 63, 63, 15, 1, 2, 62, 63);
-        rowIs(x, 64, 64, 15, 64, 0);
+        due.rowIs(x, 0, 0, 15, 64, 0);
+        due.rowIs(x, 1, 1, 15, 63, 2, 0, 63);
+        due.rowIs(x, 63, 63, 15, 1, 2, 62, 63);
+        due.rowIs(x, 64, 64, 15, 64, 0);
         x.level(0, 1);
         x.safe();
-        rowIs(x, 0, 0, 15, 63, 0);
+        due.rowIs(x, 0, 0, 15, 63, 0);
     }
 
     private void mostRows() {
@@ -603,7 +542,7 @@ public final class BoundariesTest {
     private void checkOfAMissingRow() {
         due.part("promise 10: 1 + rows() when none is wrong, but one is missing");
         for (int k = 0; k < 4; k++) {
-            SeatProofs x = pair(2);
+            SeatProofs x = Plants.chain(2);
             x.safe();
             due.same("check()", x.check(), 0);
             x.drop(k);
@@ -613,7 +552,7 @@ public final class BoundariesTest {
 
     /** Liquid 1's rows alone, for the failures 0, 1 and 2, with two valves to liquid 2's space. */
     private static SeatProofs halfProof() {
-        SeatProofs x = pair(2);
+        SeatProofs x = Plants.chain(2);
         x.valve(0, 1, 2, false);
         x.safe();
         x.drop(5);
@@ -647,7 +586,7 @@ public final class BoundariesTest {
 
     private void setWithoutProof() {
         due.part("promise 11: whether there is a proof then, without one");
-        SeatProofs x = pair(2);
+        SeatProofs x = Plants.chain(2);
         due.no("set(0, true)", x.set(0, true));
         due.same("tested()", x.tested(), 0);
         due.same("safe(): it is open", x.safe(), 0);
@@ -659,23 +598,23 @@ public final class BoundariesTest {
 
     private void setEndsTheProof() {
         due.part("promise 11: otherwise it goes");
-        SeatProofs x = pair(2);
+        SeatProofs x = Plants.chain(2);
         x.safe();
         due.no("set(0, true)", x.set(0, true));
-        noProof(x);
+        due.noProof(x);
         // Rows of different failures may share a space.
-        x = pair(2);
+        x = Plants.chain(2);
         x.safe();
         x.drop(2);
         x.drop(0);
         due.yes("set(0, true) with liquid 2's rows", x.set(0, true));
         due.same("rows()", x.rows(), 2);
-        x = pair(2);
+        x = Plants.chain(2);
         x.safe();
         x.drop(3);
         due.no("set(0, true) with both rows of failure 0", x.set(0, true));
-        noProof(x);
-        x = pair(2);
+        due.noProof(x);
+        x = Plants.chain(2);
         x.safe();
         x.drop(0);
         due.yes("set(0, true) with both rows of failure 1", x.set(0, true));
@@ -684,42 +623,42 @@ public final class BoundariesTest {
 
     private void setLastValve() {
         due.part("promise 11: an index that no valve has is thrown");
-        SeatProofs x = dry(2);
+        SeatProofs x = Plants.dry(2);
         for (int n = 0; n < 64; n++) {
-            due.yes("set(" + n + ") of " + n + " throws", setThrown(x, n));
-            due.yes("unsure(" + n + ") of " + n + " throws", unsureThrown(x, n));
+            due.yes("set(" + n + ") of " + n + " throws", Thrown.bySet(x, n, true));
+            due.yes("unsure(" + n + ") of " + n + " throws", Thrown.byUnsure(x, n, true));
             x.valve(0, 1, 1, false);
-            due.no("set(" + n + ")", setThrown(x, n));
-            due.no("unsure(" + n + ")", unsureThrown(x, n));
+            due.no("set(" + n + ")", Thrown.bySet(x, n, true));
+            due.no("unsure(" + n + ")", Thrown.byUnsure(x, n, true));
         }
-        due.yes("set(64) throws", setThrown(x, 64));
-        due.yes("unsure(64) throws", unsureThrown(x, 64));
-        due.yes("set(-1) throws", setThrown(x, -1));
-        due.yes("unsure(-1) throws", unsureThrown(x, -1));
+        due.yes("set(64) throws", Thrown.bySet(x, 64, true));
+        due.yes("unsure(64) throws", Thrown.byUnsure(x, 64, true));
+        due.yes("set(-1) throws", Thrown.bySet(x, -1, true));
+        due.yes("unsure(-1) throws", Thrown.byUnsure(x, -1, true));
         x.clear();
-        due.yes("set(0) of none throws", setThrown(x, 0));
-        due.yes("unsure(0) of none throws", unsureThrown(x, 0));
+        due.yes("set(0) of none throws", Thrown.bySet(x, 0, true));
+        due.yes("unsure(0) of none throws", Thrown.byUnsure(x, 0, true));
     }
 
     private void unsureEndsTheProof() {
         due.part("promise 12: whether that is new; then the proof goes");
-        SeatProofs x = pair(2);
+        SeatProofs x = Plants.chain(2);
         x.safe();
         due.no("unsure(0, false): it is not", x.unsure(0, false));
         due.same("rows()", x.rows(), 4);
         due.yes("unsure(0, true)", x.unsure(0, true));
-        noProof(x);
+        due.noProof(x);
         x.safe();
         due.no("unsure(0, true): it is", x.unsure(0, true));
         due.same("rows()", x.rows(), 4);
         due.yes("unsure(0, false)", x.unsure(0, false));
-        noProof(x);
+        due.noProof(x);
         due.yes("unsure(0, true) without a proof", x.unsure(0, true));
     }
 
     private void testedWithoutProof() {
         due.part("promise 13: 0 when there was no proof");
-        SeatProofs x = pair(2);
+        SeatProofs x = Plants.chain(2);
         due.same("tested() before set()", x.tested(), 0);
         x.set(0, false);
         due.same("tested()", x.tested(), 0);
@@ -740,19 +679,19 @@ public final class BoundariesTest {
 
     private void testedKeepsOffThrown() {
         due.part("promise 13: the last set() that was not thrown");
-        SeatProofs x = pair(2);
+        SeatProofs x = Plants.chain(2);
         x.safe();
         x.set(0, false);
         int[] wrong = {-1, 1, 64, LEAST, GREATEST};
         for (int v : wrong) {
-            due.yes("set(" + v + ") throws", setThrown(x, v));
+            due.yes("set(" + v + ") throws", Thrown.bySet(x, v, true));
             due.same("tested()", x.tested(), 4);
         }
     }
 
     private void testedOfNoRow() {
         due.part("promise 13: how many rows were made anew, none of a proof");
-        SeatProofs x = spaces(1, 0, 0);
+        SeatProofs x = Plants.of(1, 0, 0);
         x.valve(1, 2, 1, false);
         x.safe();
         due.yes("set(0, true)", x.set(0, true));
@@ -762,7 +701,7 @@ public final class BoundariesTest {
         due.same("tested(): none is touched", x.tested(), 0);
         due.same("rows()", x.rows(), 1);
         // One end in the flood is enough, whichever it is.
-        x = spaces(1, 0);
+        x = Plants.of(1, 0);
         x.valve(0, 1, 2, false);
         x.valve(1, 0, 2, false);
         x.safe();
@@ -774,27 +713,27 @@ public final class BoundariesTest {
 
     private void dropLastRow() {
         due.part("promise 14: those behind come one forward");
-        SeatProofs x = pair(2);
+        SeatProofs x = Plants.chain(2);
         x.safe();
         due.yes("drop(3), the last", x.drop(3));
         due.no("drop(3) again", x.drop(3));
-        rowIs(x, 2, 1, 1, 1, 1, 0);
+        due.rowIs(x, 2, 1, 1, 1, 1, 0);
         due.yes("drop(0), the first", x.drop(0));
-        rowIs(x, 0, 0, 2, 1, 1, 0);
-        rowIs(x, 1, 1, 1, 1, 1, 0);
+        due.rowIs(x, 0, 0, 2, 1, 1, 0);
+        due.rowIs(x, 1, 1, 1, 1, 1, 0);
         due.same("rows()", x.rows(), 2);
     }
 
     private void dropOnlyRow() {
         due.part("promise 14: without rows there is no proof");
-        SeatProofs x = spaces(6, 0);
+        SeatProofs x = Plants.of(6, 0);
         x.valve(0, 1, 1, false);
         x.safe();
         due.yes("drop(1)", x.drop(1));
         due.yes("set(0, false) with one row", x.set(0, false));
         due.same("tested()", x.tested(), 1);
         due.yes("drop(0)", x.drop(0));
-        noProof(x);
+        due.noProof(x);
         due.no("set(0, false) without rows", x.set(0, false));
         due.same("tested()", x.tested(), 0);
         due.same("check()", x.check(), 1);
@@ -812,7 +751,7 @@ public final class BoundariesTest {
         due.same("valve(0, 1, 1, true)", x.valve(0, 1, 1, true), FULL);
         due.same("safe()", x.safe(), 0);
         x.clear();
-        noCulprit(x);
+        due.noCulprit(x);
         due.same("check()", x.check(), 0);
         due.same("safe()", x.safe(), 1);
         for (int s = 0; s < 64; s++) {
@@ -829,36 +768,36 @@ public final class BoundariesTest {
 
     private void clearTakesEverything() {
         due.part("promise 15: all as at first");
-        SeatProofs x = pair(2);
+        SeatProofs x = Plants.chain(2);
         x.unsure(0, true);
         x.level(0, 5);
         x.level(1, 5);
         x.safe();
         x.set(0, false);
         x.clear();
-        noProof(x);
+        due.noProof(x);
         due.same("tested()", x.tested(), 0);
         due.no("level(0, 1)", x.level(0, 1));
-        due.yes("set(0, true) throws", setThrown(x, 0));
-        due.yes("unsure(0, true) throws", unsureThrown(x, 0));
+        due.yes("set(0, true) throws", Thrown.bySet(x, 0, true));
+        due.yes("unsure(0, true) throws", Thrown.byUnsure(x, 0, true));
         due.same("space(1)", x.space(1), 0);
         due.same("space(0)", x.space(0), 1);
         due.same("valve(0, 1, 1, false)", x.valve(0, 1, 1, false), 0);
         due.yes("unsure(0, true)", x.unsure(0, true));
         due.yes("unsure(0, false)", x.unsure(0, false));
         x.safe();
-        rowIs(x, 0, 0, 1, 1, 1, 0);
-        rowIs(x, 1, 1, 1, 2, 0);
+        due.rowIs(x, 0, 0, 1, 1, 1, 0);
+        due.rowIs(x, 1, 1, 1, 2, 0);
         x.level(1, 1);
         x.safe();
-        rowIs(x, 0, 0, 1, 1, 0);
-        rowIs(x, 1, 1, 1, 1, 0);
+        due.rowIs(x, 0, 0, 1, 1, 0);
+        due.rowIs(x, 1, 1, 1, 1, 0);
         x.may(1, 2);
         x.clear();
         due.yes("may(1, 2) again", x.may(1, 2));
         x.clear();
         x.clear();
         due.same("safe() of nothing", x.safe(), 1);
-        noProof(x);
+        due.noProof(x);
     }
 }

@@ -32,6 +32,31 @@ final class Due {
         }
     }
 
+    /** The whole row: also that nothing comes behind what is wanted. */
+    void rowIs(SeatProofs x, int k, int... want) {
+        for (int i = 0; i < want.length; i++) {
+            same("row(" + k + ", " + i + ")", x.row(k, i), want[i]);
+        }
+        same("row(" + k + ", " + want.length + ")", x.row(k, want.length), SeatProofs.NONE);
+    }
+
+    void culpritIs(SeatProofs x, int... want) {
+        for (int what = 0; what < want.length; what++) {
+            same("culprit(" + what + ")", x.culprit(what), want[what]);
+        }
+    }
+
+    void noCulprit(SeatProofs x) {
+        int none = SeatProofs.NONE;
+        culpritIs(x, none, none, none, none);
+    }
+
+    void noProof(SeatProofs x) {
+        same("rows()", x.rows(), 0);
+        same("row(0, 0)", x.row(0, 0), SeatProofs.NONE);
+        no("drop(0)", x.drop(0));
+    }
+
     boolean anyWrong() {
         return wrong > 0;
     }

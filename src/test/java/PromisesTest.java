@@ -39,51 +39,6 @@ public final class PromisesTest {
         t.due.end();
     }
 
-    /** Liquid 1 and 2 at the ends of a chain of empty spaces, all its valves shut. */
-    private static SeatProofs chain(int... seats) {
-        SeatProofs x = new SeatProofs();
-        x.space(1);
-        for (int n = 1; n < seats.length; n++) {
-            x.space(0);
-        }
-        x.space(2);
-        for (int n = 0; n < seats.length; n++) {
-            x.valve(n, n + 1, seats[n], false);
-        }
-        return x;
-    }
-
-    private boolean setThrown(SeatProofs x, int v) {
-        try {
-            x.set(v, true);
-            return false;
-        } catch (IndexOutOfBoundsException e) {
-            return e.getClass() == IndexOutOfBoundsException.class;
-        }
-    }
-
-    private boolean unsureThrown(SeatProofs x, int v, boolean on) {
-        try {
-            x.unsure(v, on);
-            return false;
-        } catch (IndexOutOfBoundsException e) {
-            return e.getClass() == IndexOutOfBoundsException.class;
-        }
-    }
-
-    private void rowIs(SeatProofs x, int k, int... want) {
-        for (int i = 0; i < want.length; i++) {
-            due.same("row(" + k + ", " + i + ")", x.row(k, i), want[i]);
-        }
-        due.same("row(" + k + ", " + want.length + ")", x.row(k, want.length), NONE);
-    }
-
-    private void culpritIs(SeatProofs x, int... want) {
-        for (int what = 0; what < 4; what++) {
-            due.same("culprit(" + what + ")", x.culprit(what), want[what]);
-        }
-    }
-
     private void asNew(SeatProofs x) {
         due.same("rows()", x.rows(), 0);
         due.same("tested()", x.tested(), 0);
@@ -94,8 +49,8 @@ public final class PromisesTest {
         due.same("row(0, 0)", x.row(0, 0), NONE);
         due.no("drop(0)", x.drop(0));
         due.no("level(0, 1)", x.level(0, 1));
-        due.yes("set(0) throws", setThrown(x, 0));
-        due.yes("unsure(0) throws", unsureThrown(x, 0, true));
+        due.yes("set(0) throws", Thrown.bySet(x, 0, true));
+        due.yes("unsure(0) throws", Thrown.byUnsure(x, 0, true));
         due.same("valve(0, 1, 1, true)", x.valve(0, 1, 1, true), NONE);
         due.same("safe()", x.safe(), 1);
         due.same("rows()", x.rows(), 0);
@@ -129,7 +84,7 @@ public final class PromisesTest {
 
     private void spaceEndsProof() {
         due.part("promise 2");
-        SeatProofs x = chain(2);
+        SeatProofs x = Plants.chain(2);
         x.safe();
         due.same("space(16)", x.space(16), NONE);
         due.same("rows() after a refusal", x.rows(), 4);
@@ -167,7 +122,7 @@ public final class PromisesTest {
 
     private void valveEndsProof() {
         due.part("promise 3");
-        SeatProofs x = chain(2);
+        SeatProofs x = Plants.chain(2);
         x.safe();
         due.same("valve(0, 0, 1, true)", x.valve(0, 0, 1, true), NONE);
         due.same("rows() after a refusal", x.rows(), 4);
@@ -184,7 +139,7 @@ public final class PromisesTest {
 
     private void level() {
         due.part("promise 4");
-        SeatProofs x = chain(2);
+        SeatProofs x = Plants.chain(2);
         x.safe();
         due.no("level(-1, 0)", x.level(-1, 0));
         due.no("level(2, 0)", x.level(2, 0));
@@ -225,7 +180,7 @@ public final class PromisesTest {
 
     private void may() {
         due.part("promise 5");
-        SeatProofs x = chain(2);
+        SeatProofs x = Plants.chain(2);
         x.safe();
         int[][] bad = {{0, 1}, {1, 0}, {16, 1}, {1, 16}, {-1, 2}, {2, -1}, {3, 3}, {33, 2}, {2, Integer.MAX_VALUE}};
         for (int[] b : bad) {
@@ -238,7 +193,7 @@ public final class PromisesTest {
         due.no("may(1, 15) again", x.may(1, 15));
         due.no("may(15, 1) again", x.may(15, 1));
         due.same("rows() after refusals", x.rows(), 4);
-        x = chain(1);
+        x = Plants.chain(1);
         due.same("safe()", x.safe(), 0);
         x.may(1, 3);
         due.same("safe()", x.safe(), 0);
@@ -256,12 +211,12 @@ public final class PromisesTest {
         due.same("rows() without liquids", x.rows(), 0);
         due.same("check() without liquids", x.check(), 0);
         due.no("set(0, false) without liquids", x.set(0, false));
-        x = chain(1, 1);
+        x = Plants.chain(1, 1);
         due.same("safe() of two seats in a row", x.safe(), 1);
         due.same("rows()", x.rows(), 6);
         due.same("safe() again", x.safe(), 1);
         due.same("rows() again", x.rows(), 6);
-        due.same("safe() of one seat", chain(1).safe(), 0);
+        due.same("safe() of one seat", Plants.chain(1).safe(), 0);
         x = new SeatProofs();
         x.space(7);
         x.space(7);
@@ -269,7 +224,7 @@ public final class PromisesTest {
         due.same("safe() of one liquid", x.safe(), 1);
         due.same("rows() of one liquid", x.rows(), 2);
         // With a row dropped a proof may stand over what is not safe: then safe() takes it away.
-        x = chain(1, 1);
+        x = Plants.chain(1, 1);
         x.safe();
         for (int k = 5; k > 0; k--) {
             x.drop(k);
@@ -308,10 +263,10 @@ public final class PromisesTest {
 
     private void culprit() {
         due.part("promise 7");
-        SeatProofs x = chain(1);
-        culpritIs(x, NONE, NONE, NONE, NONE);
+        SeatProofs x = Plants.chain(1);
+        due.noCulprit(x);
         due.same("safe()", x.safe(), 0);
-        culpritIs(x, 1, 0, 1, 2);
+        due.culpritIs(x, 1, 0, 1, 2);
         due.same("culprit(-1)", x.culprit(-1), NONE);
         due.same("culprit(4)", x.culprit(4), NONE);
         due.same("culprit(max)", x.culprit(Integer.MAX_VALUE), NONE);
@@ -329,27 +284,27 @@ public final class PromisesTest {
         x.level(5, 2);
         x.valve(5, 0, 2, true);
         due.same("safe()", x.safe(), 0);
-        culpritIs(x, 0, 0, 3, 9);
+        due.culpritIs(x, 0, 0, 3, 9);
         x.may(3, 9);
         x.safe();
-        culpritIs(x, 0, 4, 3, 5);
+        due.culpritIs(x, 0, 4, 3, 5);
         x.set(4, false);
         x.safe();
-        culpritIs(x, 0, 4, 5, 6);
+        due.culpritIs(x, 0, 4, 5, 6);
         x.may(5, 6);
         x.safe();
-        culpritIs(x, 0, 4, 5, 7);
+        due.culpritIs(x, 0, 4, 5, 7);
         x.may(5, 7);
         x.safe();
-        culpritIs(x, 0, 4, 5, 9);
+        due.culpritIs(x, 0, 4, 5, 9);
         x.may(5, 9);
         x.safe();
-        culpritIs(x, 0, 4, 6, 7);
+        due.culpritIs(x, 0, 4, 6, 7);
         x.may(6, 7);
         x.may(6, 9);
         x.may(7, 9);
         due.same("safe()", x.safe(), 1);
-        culpritIs(x, NONE, NONE, NONE, NONE);
+        due.noCulprit(x);
     }
 
     private void culpritOfThatSpace() {
@@ -371,27 +326,27 @@ public final class PromisesTest {
         x.may(3, 5);
         x.may(3, 6);
         due.same("safe()", x.safe(), 0);
-        culpritIs(x, 0, 0, 5, 6);
+        due.culpritIs(x, 0, 0, 5, 6);
         x.may(6, 5);
         due.same("safe()", x.safe(), 0);
-        culpritIs(x, 0, 1, 3, 4);
+        due.culpritIs(x, 0, 1, 3, 4);
     }
 
     private void culpritIsKept() {
         due.part("promise 7");
-        SeatProofs x = chain(2, 1, 2);
+        SeatProofs x = Plants.chain(2, 1, 2);
         x.set(0, true);
         x.set(2, true);
         due.same("safe()", x.safe(), 0);
-        culpritIs(x, 2, 0, 1, 2);
+        due.culpritIs(x, 2, 0, 1, 2);
         x.set(1, true);
         x.level(0, 9);
         x.space(1);
         x.may(1, 2);
         x.check();
-        culpritIs(x, 2, 0, 1, 2);
+        due.culpritIs(x, 2, 0, 1, 2);
         due.same("safe()", x.safe(), 1);
-        culpritIs(x, NONE, NONE, NONE, NONE);
+        due.noCulprit(x);
     }
 
     private void rows() {
@@ -416,20 +371,20 @@ public final class PromisesTest {
 
     private void row() {
         due.part("promise 9");
-        SeatProofs x = chain(1, 2, 1);
+        SeatProofs x = Plants.chain(1, 2, 1);
         x.valve(0, 2, 2, false);
         x.valve(3, 2, 1, true);
         due.same("safe()", x.safe(), 1);
         due.same("rows()", x.rows(), 12);
-        rowIs(x, 0, 0, 1, 1, 2, 0, 3);
-        rowIs(x, 1, 0, 2, 2, 2, 1, 3);
-        rowIs(x, 2, 1, 1, 2, 2, 1, 3);
-        rowIs(x, 3, 1, 2, 2, 2, 1, 3);
-        rowIs(x, 4, 2, 1, 1, 2, 0, 3);
-        rowIs(x, 7, 3, 2, 2, 2, 1, 3);
-        rowIs(x, 8, 4, 1, 1, 2, 0, 3);
-        rowIs(x, 10, 5, 1, 1, 2, 0, 3);
-        rowIs(x, 11, 5, 2, 1, 2, 2, 4);
+        due.rowIs(x, 0, 0, 1, 1, 2, 0, 3);
+        due.rowIs(x, 1, 0, 2, 2, 2, 1, 3);
+        due.rowIs(x, 2, 1, 1, 2, 2, 1, 3);
+        due.rowIs(x, 3, 1, 2, 2, 2, 1, 3);
+        due.rowIs(x, 4, 2, 1, 1, 2, 0, 3);
+        due.rowIs(x, 7, 3, 2, 2, 2, 1, 3);
+        due.rowIs(x, 8, 4, 1, 1, 2, 0, 3);
+        due.rowIs(x, 10, 5, 1, 1, 2, 0, 3);
+        due.rowIs(x, 11, 5, 2, 1, 2, 2, 4);
         due.same("row(-1, 0)", x.row(-1, 0), NONE);
         due.same("row(12, 0)", x.row(12, 0), NONE);
         due.same("row(min, 0)", x.row(Integer.MIN_VALUE, 0), NONE);
@@ -441,15 +396,15 @@ public final class PromisesTest {
 
     private void rowCutByLevel() {
         due.part("promise 9");
-        SeatProofs x = chain(2, 2);
+        SeatProofs x = Plants.chain(2, 2);
         x.level(1, 1);
         due.same("safe()", x.safe(), 1);
-        rowIs(x, 0, 0, 1, 1, 0);
-        rowIs(x, 1, 0, 2, 1, 0);
+        due.rowIs(x, 0, 0, 1, 1, 0);
+        due.rowIs(x, 1, 0, 2, 1, 0);
         x.level(1, -1);
         due.same("safe()", x.safe(), 1);
-        rowIs(x, 0, 0, 1, 1, 1, 0);
-        rowIs(x, 1, 0, 2, 1, 1, 1);
+        due.rowIs(x, 0, 0, 1, 1, 1, 0);
+        due.rowIs(x, 1, 0, 2, 1, 1, 1);
     }
 
     private void check() {
@@ -458,7 +413,7 @@ public final class PromisesTest {
         due.same("check() of nothing", x.check(), 0);
         x.space(0);
         due.same("check() without liquids", x.check(), 0);
-        x = chain(2, 1);
+        x = Plants.chain(2, 1);
         due.same("check() without a proof", x.check(), 1);
         x.safe();
         due.same("check()", x.check(), 0);
@@ -471,7 +426,7 @@ public final class PromisesTest {
         due.same("rows() after check()", x.rows(), 4);
         x.safe();
         due.same("check() after safe()", x.check(), 0);
-        x = chain(1);
+        x = Plants.chain(1);
         x.safe();
         due.same("check() when it is not safe", x.check(), 1);
     }
@@ -513,30 +468,30 @@ public final class PromisesTest {
 
     private void set() {
         due.part("promise 11");
-        SeatProofs x = chain(1, 2, 1);
+        SeatProofs x = Plants.chain(1, 2, 1);
         due.no("set(0, true) without a proof", x.set(0, true));
         x.safe();
-        rowIs(x, 0, 0, 1, 2, 1, 1);
-        rowIs(x, 2, 1, 1, 1, 1, 0);
+        due.rowIs(x, 0, 0, 1, 2, 1, 1);
+        due.rowIs(x, 2, 1, 1, 1, 1, 0);
         due.yes("set(0, false)", x.set(0, false));
-        rowIs(x, 0, 0, 1, 1, 1, 0);
-        rowIs(x, 2, 1, 1, 2, 1, 1);
-        rowIs(x, 4, 2, 1, 1, 1, 0);
+        due.rowIs(x, 0, 0, 1, 1, 1, 0);
+        due.rowIs(x, 2, 1, 1, 2, 1, 1);
+        due.rowIs(x, 4, 2, 1, 1, 1, 0);
         due.yes("set(2, true)", x.set(2, true));
-        rowIs(x, 1, 0, 2, 2, 1, 1);
-        rowIs(x, 7, 3, 2, 1, 1, 2);
+        due.rowIs(x, 1, 0, 2, 2, 1, 1);
+        due.rowIs(x, 7, 3, 2, 1, 1, 2);
         due.same("check()", x.check(), 0);
         due.same("rows()", x.rows(), 8);
     }
 
     private void setThrows() {
         due.part("promise 11");
-        SeatProofs x = chain(2);
+        SeatProofs x = Plants.chain(2);
         x.safe();
         x.set(0, false);
         int[] bad = {-1, 1, 64, Integer.MAX_VALUE, Integer.MIN_VALUE};
         for (int v : bad) {
-            due.yes("set(" + v + ", true) throws", setThrown(x, v));
+            due.yes("set(" + v + ", true) throws", Thrown.bySet(x, v, true));
         }
         due.same("rows() after throws", x.rows(), 4);
         due.same("tested() after throws", x.tested(), 4);
@@ -545,7 +500,7 @@ public final class PromisesTest {
 
     private void setEndsProof() {
         due.part("promise 11");
-        SeatProofs x = chain(2);
+        SeatProofs x = Plants.chain(2);
         x.safe();
         due.no("set(0, true) that lets them meet", x.set(0, true));
         due.same("rows()", x.rows(), 0);
@@ -554,13 +509,13 @@ public final class PromisesTest {
         due.same("rows() stay away", x.rows(), 0);
         due.same("culprit(0): safe() answered 1", x.culprit(0), NONE);
         due.same("safe(): the valve is shut again", x.safe(), 1);
-        x = chain(2);
+        x = Plants.chain(2);
         x.may(2, 1);
         x.safe();
         due.yes("set(0, true) of liquids that may meet", x.set(0, true));
         due.same("check()", x.check(), 0);
         // Only in a failure do they meet.
-        x = chain(1, 1);
+        x = Plants.chain(1, 1);
         x.safe();
         due.no("set(0, true) with one seat left", x.set(0, true));
         due.same("safe()", x.safe(), 0);
@@ -569,12 +524,12 @@ public final class PromisesTest {
 
     private void unsure() {
         due.part("promise 12");
-        SeatProofs x = chain(2, 1);
+        SeatProofs x = Plants.chain(2, 1);
         x.safe();
         int[] bad = {-1, 2, 64, Integer.MAX_VALUE, Integer.MIN_VALUE};
         for (int v : bad) {
-            due.yes("unsure(" + v + ", true) throws", unsureThrown(x, v, true));
-            due.yes("unsure(" + v + ", false) throws", unsureThrown(x, v, false));
+            due.yes("unsure(" + v + ", true) throws", Thrown.byUnsure(x, v, true));
+            due.yes("unsure(" + v + ", false) throws", Thrown.byUnsure(x, v, false));
         }
         due.no("unsure(1, false)", x.unsure(1, false));
         due.same("rows() after nothing new", x.rows(), 6);
@@ -592,13 +547,13 @@ public final class PromisesTest {
 
     private void unsureLetsThrough() {
         due.part("promise 12");
-        SeatProofs x = chain(1, 1);
+        SeatProofs x = Plants.chain(1, 1);
         x.unsure(0, true);
         due.same("safe()", x.safe(), 0);
-        culpritIs(x, 2, 0, 1, 2);
+        due.culpritIs(x, 2, 0, 1, 2);
         x.unsure(0, false);
         due.same("safe()", x.safe(), 1);
-        x = chain(2);
+        x = Plants.chain(2);
         x.unsure(0, true);
         due.same("safe() of two seats, shut", x.safe(), 1);
         due.no("set(0, true): open and unsure", x.set(0, true));
@@ -608,7 +563,7 @@ public final class PromisesTest {
 
     private void tested() {
         due.part("promise 13");
-        SeatProofs x = chain(1, 2, 1);
+        SeatProofs x = Plants.chain(1, 2, 1);
         due.same("tested() before a set()", x.tested(), 0);
         x.safe();
         x.set(0, true);
@@ -617,7 +572,7 @@ public final class PromisesTest {
         x.set(1, false);
         // Space 1 is flooded but when valve 0 shuts; space 2 when valve 2 opens; and the failure 2.
         due.same("tested() of what changes nothing", x.tested(), 5);
-        due.yes("set(9) throws", setThrown(x, 9));
+        due.yes("set(9) throws", Thrown.bySet(x, 9, true));
         x.check();
         x.rows();
         x.space(0);
@@ -632,7 +587,7 @@ public final class PromisesTest {
 
     private void drop() {
         due.part("promise 14");
-        SeatProofs x = chain(2, 2);
+        SeatProofs x = Plants.chain(2, 2);
         due.no("drop(0) without a proof", x.drop(0));
         x.safe();
         due.no("drop(-1)", x.drop(-1));
@@ -642,13 +597,13 @@ public final class PromisesTest {
         due.same("rows() after refusals", x.rows(), 6);
         due.yes("drop(1)", x.drop(1));
         due.same("rows()", x.rows(), 5);
-        rowIs(x, 0, 0, 1, 1, 1, 0);
-        rowIs(x, 1, 1, 1, 1, 1, 0);
-        rowIs(x, 2, 1, 2, 1, 1, 1);
-        rowIs(x, 4, 2, 2, 1, 1, 1);
+        due.rowIs(x, 0, 0, 1, 1, 1, 0);
+        due.rowIs(x, 1, 1, 1, 1, 1, 0);
+        due.rowIs(x, 2, 1, 2, 1, 1, 1);
+        due.rowIs(x, 4, 2, 2, 1, 1, 1);
         due.no("drop(5)", x.drop(5));
         due.yes("drop(4)", x.drop(4));
-        rowIs(x, 3, 2, 1, 1, 1, 0);
+        due.rowIs(x, 3, 2, 1, 1, 1, 0);
         due.same("row(4, 0)", x.row(4, 0), NONE);
         for (int n = 4; n > 0; n--) {
             due.yes("drop(0)", x.drop(0));
@@ -662,24 +617,24 @@ public final class PromisesTest {
 
     private void dropHidesClash() {
         due.part("promise 14");
-        SeatProofs x = chain(2);
+        SeatProofs x = Plants.chain(2);
         x.safe();
         x.drop(2);
         x.drop(0);
         due.same("rows()", x.rows(), 2);
         due.yes("set(0, true): rows of two failures", x.set(0, true));
         due.same("tested()", x.tested(), 2);
-        rowIs(x, 0, 0, 2, 2, 0);
-        rowIs(x, 1, 1, 2, 1, 1, 0);
+        due.rowIs(x, 0, 0, 2, 2, 0);
+        due.rowIs(x, 1, 1, 2, 1, 1, 0);
     }
 
     private void clear() {
         due.part("promise 15");
-        SeatProofs x = chain(1);
+        SeatProofs x = Plants.chain(1);
         x.may(4, 5);
         x.clear();
         asNew(x);
-        x = chain(1, 2);
+        x = Plants.chain(1, 2);
         x.unsure(0, true);
         x.unsure(1, true);
         x.level(0, -5);
@@ -700,12 +655,12 @@ public final class PromisesTest {
         due.same("valve(1, 2, 1, false)", x.valve(1, 2, 1, false), 1);
         due.same("safe()", x.safe(), 1);
         due.same("rows()", x.rows(), 6);
-        rowIs(x, 0, 0, 1, 1, 1, 0);
-        rowIs(x, 2, 1, 1, 2, 1, 1);
-        rowIs(x, 5, 2, 2, 2, 1, 0);
+        due.rowIs(x, 0, 0, 1, 1, 1, 0);
+        due.rowIs(x, 2, 1, 1, 2, 1, 1);
+        due.rowIs(x, 5, 2, 2, 2, 1, 0);
         due.no("unsure(0, false)", x.unsure(0, false));
         due.yes("may(1, 2)", x.may(1, 2));
-        x = chain(1);
+        x = Plants.chain(1);
         x.safe();
         x.clear();
         asNew(x);
@@ -727,7 +682,7 @@ public final class PromisesTest {
         x.valve(2, 3, 2, false);
         x.valve(1, 2, 2, false);
         due.same("safe()", x.safe(), 1);
-        rowIs(x, 0, 0, 3, 2, 1, 1);
+        due.rowIs(x, 0, 0, 3, 2, 1, 1);
         x.clear();
         x.space(3);
         x.space(0);
@@ -736,7 +691,7 @@ public final class PromisesTest {
         x.level(2, 1);
         x.valve(0, 1, 2, true);
         due.same("safe()", x.safe(), 1);
-        rowIs(x, 0, 0, 3, 2, 0);
+        due.rowIs(x, 0, 0, 3, 2, 0);
     }
 
     private void largest() {
@@ -751,17 +706,17 @@ public final class PromisesTest {
         x.valve(63, 0, 2, false);
         due.same("safe()", x.safe(), 1);
         due.same("rows()", x.rows(), 975);
-        rowIs(x, 14, 0, 15, 1, 2, 13, 14);
-        rowIs(x, 974, 64, 15, 1, 2, 13, 14);
+        due.rowIs(x, 14, 0, 15, 1, 2, 13, 14);
+        due.rowIs(x, 974, 64, 15, 1, 2, 13, 14);
         due.same("check()", x.check(), 0);
         due.yes("set(14, true)", x.set(14, true));
         due.same("tested()", x.tested(), 65 + 14);
-        rowIs(x, 14, 0, 15, 50, 2, 13, 63);
+        due.rowIs(x, 14, 0, 15, 50, 2, 13, 63);
         due.same("check()", x.check(), 0);
         due.yes("drop(974)", x.drop(974));
         due.same("check()", x.check(), 975);
         due.yes("drop(0)", x.drop(0));
-        rowIs(x, 13, 0, 15, 50, 2, 13, 63);
+        due.rowIs(x, 13, 0, 15, 50, 2, 13, 63);
         due.no("set(63, true): all round", x.set(63, true));
     }
 }
